@@ -39,17 +39,15 @@ public final class KitRows {
     private final Ring refusedRing;
     private final Floor floor;
     private final int[] prices;
-    private final long[] knownCosts;
     private Recipe brokenRows;
     private int today;
 
     public KitRows() {
         book = new Book();
-        reader = new Reader(book);
+        reader = new Reader();
         refusedRing = new Ring();
         floor = new Floor();
         prices = new int[GOODS];
-        knownCosts = new long[MOST_KITS];
         brokenRows = null;
         today = 0;
     }
@@ -66,7 +64,7 @@ public final class KitRows {
 
     public int read() throws UnsupportedOperationException {
         int kitsBefore = book.kits.size();
-        int place = reader.readText();
+        int place = reader.readText(book);
         if (place != NONE) {
             book.takeBack(kitsBefore);
             return -1 - place;
@@ -113,11 +111,11 @@ public final class KitRows {
         if (day < today || day <= found.newest.firstDay) {
             throw new IllegalStateException("the day is too early");
         }
-        if (found.recipes.size() >= MOST_RECIPES) {
+        if (found.recipeCount >= MOST_RECIPES) {
             throw new UnsupportedOperationException("no room for another recipe");
         }
         found.addRecipe(day);
-        return found.recipes.size();
+        return found.recipeCount;
     }
 
     public void day(int day) throws IllegalArgumentException, IllegalStateException {
@@ -136,7 +134,7 @@ public final class KitRows {
 
     public int cost(int kit) throws NoSuchElementException {
         Kit found = existingKit(kit);
-        Arrays.fill(knownCosts, NONE);
+        book.forgetCosts();
         long sum = costOfKit(found, 1);
         return sum > HIGHEST_COST ? -1 : (int) sum;
     }
@@ -265,9 +263,9 @@ public final class KitRows {
             case 1:
                 return found.good;
             case 2:
-                return found.madeBy;
+                return found.madeBy.number;
             case 3:
-                return found.holder;
+                return found.holderNumber();
             default:
                 throw new IllegalArgumentException("nothing of a unit");
         }
@@ -276,7 +274,7 @@ public final class KitRows {
     public int good(int good, int what) throws IllegalArgumentException {
         checkGood(good);
         checkRange(what, 0, 1);
-        return what == 0 ? floor.loosePieces(good) : book.kitOfGood[good];
+        return what == 0 ? floor.loosePieces(good) : book.kitNumber(good);
     }
 
     public int count(int what) {
@@ -362,39 +360,42 @@ public final class KitRows {
         return -refusedRing.size;
     }
 
-    /** Each kit is counted once a call: a kit may stand in so many others that going through all of them would not end soon. */
+    /** Counts each kit once a call: it may stand in so many others that to go all ways to it would take hours. */
     private long costOfKit(Kit kit, int depth) {
+        // Without rings no way leads through more kits than there are.
         if (depth > MOST_KITS) {
             return TOO_DEAR;
         }
-        if (knownCosts[kit.number] != NONE) {
-            return knownCosts[kit.number];
+        if (kit.knownCost != NONE) {
+            return kit.knownCost;
         }
         Recipe recipe = kit.recipeOn(today);
         long sum = 0;
         for (int part = 0; part < recipe.size; part++) {
             sum += recipe.pieces[part] * costOfPiece(recipe.goods[part], depth);
         }
-        // Cut off above the limit, so that no sum of sums runs over.
-        knownCosts[kit.number] = Math.min(sum, TOO_DEAR);
-        return knownCosts[kit.number];
+        // Cut off just above the limit, so that no sum of sums runs over.
+        kit.knownCost = Math.min(sum, TOO_DEAR);
+        return kit.knownCost;
     }
 
     private long costOfPiece(int good, int depth) {
-        int kit = book.kitOfGood[good];
-        return kit == NONE ? prices[good] : costOfKit(book.kits.get(kit), depth + 1);
+        Kit kit = book.kitOfGood[good];
+        return kit == null ? prices[good] : costOfKit(kit, depth + 1);
     }
 
     /** Parts from a day on; a making has a copy of its own, which a substitution changes. */
     private static final class Recipe {
         final int firstDay;
+        final Recipe earlier;
         final int[] goods;
         final int[] pieces;
         final int[] insteads;
         int size;
 
-        Recipe(int firstDay) {
+        Recipe(int firstDay, Recipe earlier) {
             this.firstDay = firstDay;
+            this.earlier = earlier;
             goods = new int[MOST_PARTS];
             pieces = new int[MOST_PARTS];
             insteads = new int[MOST_PARTS];
@@ -422,7 +423,7 @@ public final class KitRows {
         }
 
         Recipe copy() {
-            Recipe copied = new Recipe(firstDay);
+            Recipe copied = new Recipe(firstDay, null);
             for (int part = 0; part < size; part++) {
                 copied.addPart(goods[part], pieces[part]);
                 copied.addInstead(insteads[part]);
@@ -431,35 +432,31 @@ public final class KitRows {
         }
     }
 
-    /** The recipes of a kit stand in the order of their days. */
+    /** Each new recipe is for a later day, so that the chain from the newest one on goes back in time, to day 0. */
     private static final class Kit {
         final int number;
         final int good;
-        final Recipe first;
-        final ArrayList<Recipe> recipes;
         Recipe newest;
+        int recipeCount;
+        long knownCost;
 
         Kit(int number, int good) {
             this.number = number;
             this.good = good;
-            first = new Recipe(0);
-            recipes = new ArrayList<Recipe>();
-            recipes.add(first);
-            newest = first;
+            newest = new Recipe(0, null);
+            recipeCount = 1;
+            knownCost = NONE;
         }
 
         void addRecipe(int firstDay) {
-            newest = new Recipe(firstDay);
-            recipes.add(newest);
+            newest = new Recipe(firstDay, newest);
+            recipeCount++;
         }
 
         Recipe recipeOn(int day) {
-            Recipe found = first;
-            for (int i = 0; i < recipes.size(); i++) {
-                Recipe recipe = recipes.get(i);
-                if (recipe.firstDay <= day) {
-                    found = recipe;
-                }
+            Recipe found = newest;
+            while (found.earlier != null && found.firstDay > day) {
+                found = found.earlier;
             }
             return found;
         }
@@ -468,25 +465,29 @@ public final class KitRows {
     /** All kits, and for each good (as bits) the goods to which it leads in one go. */
     private static final class Book {
         final ArrayList<Kit> kits;
-        final int[] kitOfGood;
+        final Kit[] kitOfGood;
         private final int[] leads;
         private final int[] away;
 
         Book() {
             kits = new ArrayList<Kit>();
-            kitOfGood = new int[GOODS];
-            Arrays.fill(kitOfGood, NONE);
+            kitOfGood = new Kit[GOODS];
             leads = new int[GOODS];
             away = new int[GOODS];
         }
 
         boolean hasKit(int good) {
-            return kitOfGood[good] != NONE;
+            return kitOfGood[good] != null;
+        }
+
+        int kitNumber(int good) {
+            Kit kit = kitOfGood[good];
+            return kit == null ? NONE : kit.number;
         }
 
         Kit addKit(int good) {
             Kit added = new Kit(kits.size(), good);
-            kitOfGood[good] = added.number;
+            kitOfGood[good] = added;
             kits.add(added);
             return added;
         }
@@ -505,13 +506,19 @@ public final class KitRows {
         void takeBack(int left) {
             for (int i = kits.size() - 1; i >= 0 && i >= left; i--) {
                 int good = kits.get(i).good;
-                kitOfGood[good] = NONE;
+                kitOfGood[good] = null;
                 leads[good] = 0;
                 kits.remove(i);
             }
         }
 
-        /** Would the kit's good lead to itself, if it led to this one? Keeps how far all goods are from the kit's, for the ring. */
+        void forgetCosts() {
+            for (int i = 0; i < kits.size(); i++) {
+                kits.get(i).knownCost = NONE;
+            }
+        }
+
+        /** Would the kit's good lead to itself, if it led to this one? What it measures is kept, to trace the ring. */
         boolean makesRing(Kit kit, int good) {
             Arrays.fill(away, NONE);
             away[kit.good] = 0;
@@ -576,19 +583,17 @@ public final class KitRows {
         }
     }
 
-    /** Collects signs and reads them as a text, whose kits it adds to the book as it goes, so that each line is looked at with all before it. */
+    /** Adds a text's kits to the book as it goes, so that each number is looked at with all before it. */
     private static final class Reader {
         private static final int TEXT_END = -1;
         private static final int BEYOND_ALL = 1000;
 
-        private final Book book;
         private final char[] signs;
         int size;
         private int at;
         private int refusedAt;
 
-        Reader(Book book) {
-            this.book = book;
+        Reader() {
             signs = new char[MOST_SIGNS];
             size = 0;
             at = 0;
@@ -603,18 +608,18 @@ public final class KitRows {
         }
 
         /** The place at which the text is refused, or NONE; the caller takes back what it added till then. */
-        int readText() {
+        int readText(Book book) {
             at = 0;
             refusedAt = NONE;
             boolean right = true;
             for (int line = 0; line < MOST_SIGNS && right && at < size; line++) {
-                right = readLine();
+                right = readLine(book);
             }
             size = 0;
             return refusedAt;
         }
 
-        private boolean readLine() {
+        private boolean readLine(Book book) {
             if (!pass('K') || !pass(' ')) {
                 return false;
             }
@@ -627,14 +632,14 @@ public final class KitRows {
                 return refuse(start);
             }
             Kit kit = book.addKit(good);
-            boolean right = readPart(kit);
+            boolean right = readPart(book, kit);
             for (int parts = 1; parts < MOST_PARTS && right && nextSign() == ' '; parts++) {
-                right = readPart(kit);
+                right = readPart(book, kit);
             }
             return right && pass(LINE_END);
         }
 
-        private boolean readPart(Kit kit) {
+        private boolean readPart(Book book, Kit kit) {
             if (!pass(' ')) {
                 return false;
             }
@@ -642,7 +647,7 @@ public final class KitRows {
             if (pieces == NONE || !pass('*')) {
                 return false;
             }
-            int good = readLedTo(kit, NONE);
+            int good = readLedTo(book, kit, NONE);
             if (good == NONE) {
                 return false;
             }
@@ -651,7 +656,7 @@ public final class KitRows {
                 return true;
             }
             at++;
-            int instead = readLedTo(kit, good);
+            int instead = readLedTo(book, kit, good);
             if (instead == NONE) {
                 return false;
             }
@@ -660,7 +665,7 @@ public final class KitRows {
         }
 
         /** A good to which the kit's good may lead, and not the one named here. */
-        private int readLedTo(Kit kit, int notThis) {
+        private int readLedTo(Book book, Kit kit, int notThis) {
             int start = at;
             int good = readNumber(0, GOODS - 1);
             if (good != NONE && (good == notThis || book.makesRing(kit, good))) {
@@ -713,7 +718,7 @@ public final class KitRows {
         }
     }
 
-    /** What is held for each part: plain pieces, which are no units, and units. It stays as a record when the making is done. */
+    /** Holds plain pieces (no units) and units, part by part; of a done one this tells what is bound in its unit. */
     private static final class Making {
         final int number;
         final int kit;
@@ -768,50 +773,65 @@ public final class KitRows {
         }
     }
 
-    /** The holder is the making that holds the unit (for one of its parts), or the unit in which it is bound, or 0. */
+    /** A held unit has a holder (and its part for which it is held), a bound one a whole; neither stands else. */
     private static final class Unit {
         final int number;
         final int good;
-        final int madeBy;
+        final Making madeBy;
         int state;
-        int holder;
-        private int partOfHolder;
+        private Making holder;
+        private int heldPart;
+        private Unit whole;
 
-        Unit(int number, Making by) {
+        Unit(int number, Making madeBy) {
             this.number = number;
-            this.good = by.good;
-            this.madeBy = by.number;
+            this.good = madeBy.good;
+            this.madeBy = madeBy;
             state = LOOSE;
-            holder = 0;
-            partOfHolder = 0;
+            holder = null;
+            heldPart = NONE;
+            whole = null;
+        }
+
+        int holderNumber() {
+            if (holder != null) {
+                return holder.number;
+            }
+            return whole != null ? whole.number : 0;
         }
 
         boolean isHeldBy(Making making) {
-            return state == HELD && holder == making.number;
+            return holder == making;
         }
 
         boolean isHeldFor(Making making, int part) {
-            return isHeldBy(making) && partOfHolder == part;
+            return holder == making && heldPart == part;
         }
 
-        boolean isBoundIn(Unit whole) {
-            return state == BOUND && holder == whole.number;
+        boolean isBoundIn(Unit other) {
+            return whole == other;
+        }
+
+        boolean isBoundInBroken() {
+            return whole != null && whole.state == BROKEN;
         }
 
         void hold(Making making, int part) {
             state = HELD;
-            holder = making.number;
-            partOfHolder = part;
+            holder = making;
+            heldPart = part;
         }
 
-        void bind(Unit whole) {
-            state = BOUND;
-            holder = whole.number;
+        void bind(Unit other) {
+            leaveAs(BOUND);
+            whole = other;
         }
 
         void leaveAs(int newState) {
             state = newState;
-            holder = 0;
+            holder = null;
+            heldPart = NONE;
+            whole = null;
         }
     }
 
@@ -867,7 +887,7 @@ public final class KitRows {
             // A unit's number is above those of all that is bound in it: going down, it is broken ahead of them.
             for (int i = units.size() - 1; i >= 0; i--) {
                 Unit unit = units.get(i);
-                if (unit.isHeldFor(making, part) || isBoundInBroken(unit)) {
+                if (unit.isHeldFor(making, part) || unit.isBoundInBroken()) {
                     unit.leaveAs(BROKEN);
                 }
             }
@@ -900,7 +920,7 @@ public final class KitRows {
 
         /** Answers the recipe by which the unit was made, with the goods that were taken. */
         Recipe takeApart(Unit whole) {
-            Making by = makings.get(whole.madeBy - 1);
+            Making by = whole.madeBy;
             unitsLoose[whole.good]--;
             whole.leaveAs(BROKEN);
             for (int part = 0; part < by.recipe.size; part++) {
@@ -914,10 +934,6 @@ public final class KitRows {
             }
             offerLoosePieces();
             return by.recipe;
-        }
-
-        private boolean isBoundInBroken(Unit unit) {
-            return unit.state == BOUND && units.get(unit.holder - 1).state == BROKEN;
         }
 
         private void loosen(Making making, int part) {
@@ -937,7 +953,7 @@ public final class KitRows {
             unitsLoose[unit.good]++;
         }
 
-        /** Called only when all that a call loosens is loose: which pieces a making gets depends on all that are there. */
+        /** Called when all that a call loosens is loose, because it depends on the rest which piece a making gets. */
         private void offerLoosePieces() {
             for (int i = 0; i < makings.size(); i++) {
                 Making making = makings.get(i);

@@ -14,7 +14,7 @@ final class Model {
     private static final Pattern TEXT = Pattern.compile("(?:K " + GOOD + PART + "{1,5}\n)*");
     private static final Pattern TOKEN = Pattern.compile("(?<sign>[K */\n])|(?<number>0|[1-9][0-9]*)");
 
-    static final class Part implements Cloneable {
+    static final class Part {
         int good;
         int pieces;
         Integer instead;
@@ -116,7 +116,8 @@ final class Model {
         String all = text.toString();
         text.setLength(0);
         List<Kit> before = new ArrayList<>(kits);
-        int place = Math.min(syntaxPlace(all), meaningPlace(all.substring(0, Math.min(all.length(), syntaxPlace(all)))));
+        int syntax = syntaxPlace(all);
+        int place = Math.min(syntax, meaningPlace(all.substring(0, Math.min(all.length(), syntax))));
         if (place != Integer.MAX_VALUE) {
             kits = before;
             return -1 - place;
@@ -370,11 +371,10 @@ final class Model {
     private void settle() {
         for (Making m : makings) {
             for (Part part : m.parts) {
-                int have = m.state == 0 ? held(m, part) : part.pieces;
-                for (Piece p = have < part.pieces ? nextLoose(part.good) : null; p != null && have < part.pieces; have++) {
+                while (m.state == 0 && held(m, part) < part.pieces && nextLoose(part.good) != null) {
+                    Piece p = nextLoose(part.good);
                     p.holder = m;
                     p.heldFor = part;
-                    p = nextLoose(part.good);
                 }
             }
         }

@@ -181,7 +181,8 @@ public final class ModelTest {
             return new int[] {3, good()};
         }
         if (kind < 25) {
-            return new int[] {4, kit(), good(), odd() ? random.nextInt(14) - 2 : 1 + random.nextInt(random.nextInt(9) + 1), random.nextInt(4) == 0 ? 1 : 0};
+            int pieces = odd() ? random.nextInt(14) - 2 : 1 + random.nextInt(random.nextInt(9) + 1);
+            return new int[] {4, kit(), good(), pieces, random.nextInt(4) == 0 ? 1 : 0};
         }
         if (kind < 26) {
             return new int[] {6, kit(), model.today + random.nextInt(7) - 1};
@@ -286,7 +287,10 @@ public final class ModelTest {
         if (kind < 12) {
             return new int[] {19, unit(), random.nextInt(odd() ? 6 : 4)};
         }
-        return kind < 14 ? new int[] {20, good(), random.nextInt(odd() ? 4 : 2)} : new int[] {21, random.nextInt(7) - 1};
+        if (kind < 14) {
+            return new int[] {20, good(), random.nextInt(odd() ? 4 : 2)};
+        }
+        return new int[] {21, random.nextInt(7) - 1};
     }
 
     private boolean odd() {
@@ -320,7 +324,8 @@ public final class ModelTest {
         for (int line = random.nextInt(4); line > 0; line--) {
             all.append("K ").append(textGood());
             for (int part = 1 + random.nextInt(random.nextInt(5) + 1); part > 0; part--) {
-                all.append(' ').append(odd() ? random.nextInt(12) : 1 + random.nextInt(3)).append('*').append(textGood());
+                all.append(' ').append(odd() ? random.nextInt(12) : 1 + random.nextInt(3));
+                all.append('*').append(textGood());
                 if (random.nextInt(3) == 0) {
                     all.append('/').append(textGood());
                 }
