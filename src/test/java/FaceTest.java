@@ -11,14 +11,17 @@ public final class FaceTest {
         "void sign(int) IllegalArgumentException UnsupportedOperationException",
         "int read() UnsupportedOperationException",
         "int kit(int) IllegalArgumentException IllegalStateException UnsupportedOperationException",
-        "int part(int,int,int,boolean) IllegalArgumentException IllegalStateException NoSuchElementException UnsupportedOperationException",
+        "int part(int,int,int,boolean) IllegalArgumentException IllegalStateException NoSuchElementException"
+            + " UnsupportedOperationException",
         "int ring(int)",
-        "int changed(int,int) IllegalArgumentException IllegalStateException NoSuchElementException UnsupportedOperationException",
+        "int changed(int,int) IllegalArgumentException IllegalStateException NoSuchElementException"
+            + " UnsupportedOperationException",
         "void day(int) IllegalArgumentException IllegalStateException",
         "void price(int,int) IllegalArgumentException",
         "int cost(int) NoSuchElementException",
         "int stock(int,int) IllegalArgumentException",
-        "int make(int,int) IllegalArgumentException IllegalStateException NoSuchElementException UnsupportedOperationException",
+        "int make(int,int) IllegalArgumentException IllegalStateException NoSuchElementException"
+            + " UnsupportedOperationException",
         "void substitute(int,int) IllegalArgumentException IllegalStateException NoSuchElementException",
         "int step(int,int,boolean) IllegalStateException NoSuchElementException",
         "int done(int) IllegalStateException NoSuchElementException UnsupportedOperationException",
@@ -30,8 +33,8 @@ public final class FaceTest {
         "int good(int,int) IllegalArgumentException",
         "int count(int)",
     };
-    private static final int[] NUMBERS = {Integer.MIN_VALUE, -1000, -2, -1, 0, 1, 2, 3, 4, 5, 6, 7, 9, 10, 11, 12, 19, 20,
-        39, 40, 41, 59, 60, 61, 126, 127, 255, 999, 1000, 1001, 65536, Integer.MAX_VALUE};
+    private static final int[] NUMBERS = {Integer.MIN_VALUE, -1000, -2, -1, 0, 1, 2, 3, 4, 5, 6, 7, 9, 10, 11, 12, 19,
+        20, 39, 40, 41, 59, 60, 61, 126, 127, 255, 999, 1000, 1001, 65536, Integer.MAX_VALUE};
     private static final Check t = new Check("FaceTest");
 
     public static void main(String[] args) throws ReflectiveOperationException {
@@ -75,8 +78,8 @@ public final class FaceTest {
 
     private static void nothingElseIsVisible() {
         for (Method m : KitRows.class.getDeclaredMethods()) {
-            int modifiers = m.getModifiers();
-            t.due(m + " is public or private", Modifier.isPublic(modifiers) || Modifier.isPrivate(modifiers) ? 1 : 0, 1);
+            boolean right = Modifier.isPublic(m.getModifiers()) || Modifier.isPrivate(m.getModifiers());
+            t.due(m + " is public or private", right ? 1 : 0, 1);
         }
         for (Field f : KitRows.class.getDeclaredFields()) {
             t.due(f + " is private", Modifier.isPrivate(f.getModifiers()) ? 1 : 0, 1);

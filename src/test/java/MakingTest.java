@@ -305,6 +305,7 @@ public final class MakingTest {
         x.step(1, 1, true);
         t.due("two are", x.done(1), -2);
         x.step(1, 2, true);
+        t.due("one is", x.done(1), -1);
         x.step(1, 3, true);
         t.due("still open", x.making(1, 0), 0);
         t.due("unit 1", x.done(1), 1);
@@ -367,8 +368,12 @@ public final class MakingTest {
         t.due("pieces of the other", x.good(2, 0), 1);
         x.stock(2, 1);
         x.make(0, 0);
-        Check.finish(x, 3);
-        t.refused(Check.STATE, "it is done", () -> x.drop(3));
+        x.stock(2, 5);
+        x.drop(3);
+        t.due("they come to those that are loose", x.good(2, 0), 7);
+        x.make(0, 0);
+        Check.finish(x, 4);
+        t.refused(Check.STATE, "it is done", () -> x.drop(4));
     }
 
     private static void dropLoosensAllAtOnce() {

@@ -10,6 +10,7 @@ public final class RecipeTest {
         ringOfOne();
         shortestRing();
         leastRing();
+        ringThroughGood0();
         ringsThroughAllRecipes();
         ringStays();
         recipesByDays();
@@ -141,6 +142,16 @@ public final class RecipeTest {
         x.part(x.good(12, 1), 1, 1, false);
         t.due("the shortest way goes ahead of lesser goods", x.part(x.good(1, 1), 10, 1, false), -3);
         dueRing(x, 1, 10, 12);
+    }
+
+    private static void ringThroughGood0() {
+        KitRows x = new KitRows();
+        Check.read(x, "K 3 1*0 1*1\nK 0 1*4\nK 1 1*4\n");
+        x.kit(4);
+        t.due("0 is a good like others", x.part(3, 3, 1, false), -3);
+        dueRing(x, 4, 3, 0);
+        t.due("as a part, too", x.part(3, 0, 1, false), -2);
+        dueRing(x, 4, 0);
     }
 
     private static void ringsThroughAllRecipes() {

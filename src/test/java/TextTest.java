@@ -14,6 +14,7 @@ public final class TextTest {
         rings();
         insteadOfItself();
         firstOfSeveralFaults();
+        textsBehindTexts();
         nothingIsKept();
         tooManyKits();
         t.end();
@@ -213,6 +214,21 @@ public final class TextTest {
         dueAt("K 5 1*5/x", 6);
         dueAt("K 5 1*1\nK 5 0*1\nx", 10);
         dueAt("K 5 1*x\nK 5", 6);
+        dueAt("K 5\nK 6 x", 3);
+        dueAt("K 5 0*1\nx", 4);
+        dueAt("K 5 1*5\nx", 6);
+        dueAt("K 5 1*1/1\nx", 8);
+        dueAt("K 5 1*1/20\nx", 8);
+    }
+
+    /** What a text before had at a place is no sign of this one. */
+    private static void textsBehindTexts() {
+        KitRows x = new KitRows();
+        t.due("a right text", Check.read(x, "K 5 1*1\n"), 1);
+        t.due("the same without its end", Check.read(x, "K 6 1*1"), -1 - 7);
+        t.due("its beginning", Check.read(x, "K "), -1 - 2);
+        t.due("a wrong one", Check.read(x, "K 6 11*1\n"), -1 - 4);
+        t.due("a right one again", Check.read(x, "K 6 1*1\n"), 2);
     }
 
     private static void nothingIsKept() {
@@ -228,6 +244,9 @@ public final class TextTest {
         t.due("kit of 7 then", x.good(7, 1), 1);
         t.due("refused in a part", Check.read(x, "K 5 1*9/"), -1 - 8);
         t.due("9 may be made of 5", x.part(0, 5, 1, false), 1);
+        KitRows y = new KitRows();
+        t.due("a ring", Check.read(y, "K 5 1*5\n"), -1 - 6);
+        t.due("0 made of 5", Check.read(y, "K 0 1*5\n"), 1);
     }
 
     private static void tooManyKits() {

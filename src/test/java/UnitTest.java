@@ -4,6 +4,7 @@ public final class UnitTest {
 
     public static void main(String[] args) {
         broken();
+        fiveParts();
         brokenRefused();
         brokenTellsWhatWasTaken();
         unitsBecomeLooseAsThemselves();
@@ -44,6 +45,26 @@ public final class UnitTest {
         t.due("it is a unit still", x.count(2), 1);
         x.make(0, 0);
         t.due("the next number", Check.finish(x, 2), 2);
+    }
+
+    private static void fiveParts() {
+        KitRows x = new KitRows();
+        Check.read(x, "K 5 1*0 2*1 3*2 4*3 9*4\n");
+        for (int good = 0; good < 5; good++) {
+            x.stock(good, 10);
+        }
+        x.make(0, 0);
+        t.due("it holds", x.making(1, 4), 19);
+        x.drop(1);
+        x.make(0, 0);
+        Check.finish(x, 2);
+        t.due("rows", x.broken(1), 5);
+        int[] pieces = {1, 2, 3, 4, 9};
+        for (int part = 0; part < 5; part++) {
+            dueRow(x, part, part, pieces[part]);
+            t.due("all pieces are loose", x.good(part, 0), 10);
+        }
+        t.refused(Check.MISSING, "row(5, 0)", () -> x.row(5, 0));
     }
 
     private static void brokenRefused() {
@@ -168,6 +189,7 @@ public final class UnitTest {
         x.substitute(4, 1);
         t.due("unit 1 goes over", x.unit(1, 3), 6);
         t.due("with the piece", x.making(6, 4), 2);
+        t.due("and is not held by the first", x.making(4, 5), 2);
         x.drop(5);
         t.due("unit 2 is loose then", x.unit(2, 0), 0);
         t.due("in nothing", x.unit(2, 3), 0);
