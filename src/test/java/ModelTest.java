@@ -25,7 +25,7 @@ public final class ModelTest {
     }
 
     public static void main(String[] args) {
-        int runs = args.length > 0 ? Integer.parseInt(args[0]) : 1500;
+        int runs = args.length > 0 ? Integer.parseInt(args[0]) : 2000;
         int[] seen = new int[6];
         for (int seed = 1; seed <= runs; seed++) {
             ModelTest test = new ModelTest(seed);
@@ -50,38 +50,43 @@ public final class ModelTest {
     }
 
     private boolean goOn(int seed) {
-        while (calls < CALLS) {
+        int portion = seed % 3;
+        // One call adds a making or a unit at most, so that there are calls enough left to look at it.
+        while (calls + callsToLookAt(portion) + 8 <= CALLS) {
             if (!same(nextCall())) {
                 t.fail("run of seed " + seed + ":" + run);
                 return false;
             }
         }
-        return sameState(seed);
+        if (!sameState(portion)) {
+            t.fail("the end of the run of seed " + seed + ":" + run);
+            return false;
+        }
+        return true;
     }
 
-    private boolean sameState(int seed) {
+    private int callsToLookAt(int portion) {
+        return portion == 0 ? 67 : portion == 1 ? 7 * (model.count(1) + 2) : 4 * (model.count(2) + 2);
+    }
+
+    /** A third of all that can be asked: more would take an object beyond its last call. */
+    private boolean sameState(int portion) {
         boolean same = true;
-        for (int what = -1; what <= 5; what++) {
+        for (int what = -1; portion == 0 && what <= 5; what++) {
             same &= same(new int[] {21, what});
         }
-        for (int good = 0; good < 20; good++) {
-            same &= same(new int[] {20, good, 0}) & same(new int[] {20, good, 1});
+        for (int good = 0; portion == 0 && good < 20; good++) {
+            same &= same(new int[] {20, good, 0}) & same(new int[] {20, good, 1}) & same(new int[] {5, good});
         }
-        for (int making = 0; making <= 41; making++) {
+        for (int making = 0; portion == 1 && making <= model.count(1) + 1; making++) {
             for (int what = 0; what <= 6; what++) {
                 same &= same(new int[] {18, making, what});
             }
         }
-        for (int unit = 0; unit <= 61; unit++) {
+        for (int unit = 0; portion == 2 && unit <= model.count(2) + 1; unit++) {
             for (int what = 0; what <= 3; what++) {
                 same &= same(new int[] {19, unit, what});
             }
-        }
-        for (int i = 0; i < 20; i++) {
-            same &= same(new int[] {5, i});
-        }
-        if (!same) {
-            t.fail("the end of the run of seed " + seed + ":" + run);
         }
         return same;
     }
