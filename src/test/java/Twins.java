@@ -14,7 +14,7 @@ final class Twins {
     private static final Look RING = Twins::ring;
     private static final Look[] LOOKS = {Twins::numbers, Twins::makings, Twins::units, Twins::reading,
         Twins::recipesOfToday, Twins::recipesOfTheLastDay, Twins::tellingOn, Twins::goingOn, Twins::dropping,
-        Twins::breaking, Twins::newKits};
+        Twins::breaking, Twins::newKitsUpwards, Twins::newKitsDownwards};
 
     private final Check t;
 
@@ -226,12 +226,26 @@ final class Twins {
         goods(x, seen);
     }
 
-    private static void newKits(KitRows x, StringBuilder seen) {
-        for (int i = 0; i < 20; i++) {
-            final int good = i;
-            tell(seen, "new" + i, () -> x.kit(good));
-            tell(seen, "part", () -> x.part(x.good(good, 1), 19, 1, false));
+    /** Goods that led somewhere would make rings here, up the goods or down. */
+    private static void newKitsUpwards(KitRows x, StringBuilder seen) {
+        for (int good = 0; good < 20; good++) {
+            newKit(x, seen, good, 1);
         }
         goods(x, seen);
+    }
+
+    private static void newKitsDownwards(KitRows x, StringBuilder seen) {
+        for (int good = 19; good >= 0; good--) {
+            newKit(x, seen, good, 19);
+        }
+        goods(x, seen);
+    }
+
+    private static void newKit(KitRows x, StringBuilder seen, int good, int onward) {
+        tell(seen, "new" + good, () -> x.kit(good));
+        for (int i = 1; i <= 5; i++) {
+            final int part = (good + i * onward) % 20;
+            tell(seen, "part" + part, () -> x.part(x.good(good, 1), part, 1, false));
+        }
     }
 }
